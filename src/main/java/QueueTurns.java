@@ -594,7 +594,17 @@ public final class QueueTurns {
         void runTo(int last) {
             begin();
             for (int t = 0; t <= last && t < MINUTES && ended < plan.persons; t++) {
-                goOn(t);
+                letGoAway(t);
+                if (draw >= 0 ? isDrawnCry(t) : isToldCry(t) || isExtraCry(t)) {
+                    turn(t);
+                }
+                letCome(t);
+                if (plan.every > 0 && t % plan.every == 0) {
+                    serve(t);
+                }
+                if (loaves == 0) {
+                    sendHome(t);
+                }
             }
         }
 
@@ -612,20 +622,6 @@ public final class QueueTurns {
             lastTurn = -1;
         }
 
-        void goOn(int t) {
-            letGoAway(t);
-            if (isCry(t)) {
-                turn(t);
-            }
-            letCome(t);
-            if (plan.every > 0 && t % plan.every == 0) {
-                serve(t);
-            }
-            if (loaves == 0) {
-                sendHome(t);
-            }
-        }
-
         void letGoAway(int t) {
             int stay = 0;
             for (int k = 0; k < size; k++) {
@@ -638,10 +634,6 @@ public final class QueueTurns {
                 }
             }
             size = stay;
-        }
-
-        boolean isCry(int t) {
-            return draw >= 0 ? isDrawnCry(t) : isToldCry(t) || isExtraCry(t);
         }
 
         boolean isToldCry(int t) {
