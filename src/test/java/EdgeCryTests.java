@@ -182,6 +182,12 @@ public final class EdgeCryTests {
         suspected("p1,0,50;p1,1,50;" + "c1,0;".repeat(7) + "c1,2;s1,9;", 7);
     }
 
+    /** "most": what comes behind it and gained less doesn't matter. */
+    static void p11_suspect_theFirstOf8() {
+        suspected("p1,0,50;p1,1,50;c1,2;" + "c1,0;".repeat(7) + "s1,9;", 0);
+        suspected("p1,1,50;p1,0,50;c0,0;c0,2;s1,9;", 0);
+    }
+
     /** "most": though nobody gained, the least of all being all there is. */
     static void p11_suspect_thoughNothingWasGained() {
         suspected("p1,1,50;c0,2;s1,9;", 0);
@@ -374,6 +380,17 @@ public final class EdgeCryTests {
         due("served", x.person(1, 4), 9);
     }
 
+    /** Taken back and told for another minute, it is heard in that one alone. */
+    static void p13_takeBack_thenToldForAnotherMinute() {
+        QueueTurns x = Edges.laid("p1,1,50;p1,0,50;s1,9;");
+        x.tell(0, 5);
+        x.takeBack();
+        x.tell(0, 7);
+        due("turns", x.all(4), 1);
+        due("place(0, 6)", x.place(0, 6), 0);
+        due("place(0, 7)", x.place(0, 7), 1);
+    }
+
     /** NO by a new TEXT that is LAID, by the TEXT's own cries only. */
     static void p13_takeBack_behindLay_NO() {
         QueueTurns x = Edges.laid("p1,1,50;c0,5;");
@@ -438,6 +455,13 @@ public final class EdgeCryTests {
         Edges.changesNothing(Edges::busy, "hush(0, 200)", x -> x.hush(0, 200), BAD);
         Edges.changesNothing(Edges::busy, "hush(3, 0)", x -> x.hush(3, 0), NONE);
         Edges.changesNothing(Edges::fresh, "hush(1, 2)", x -> x.hush(1, 2), 1);
+    }
+
+    /** Asked by a minute in the middle of a morning, the next morning begins anew: he cries at 4 and comes at 5. */
+    static void p14_hush_theNextMorningBeginsAnew() {
+        QueueTurns x = Edges.laid("p5,1,50;p1,0,50;c0,4;s1,9;");
+        due("hush(0, 6)", x.hush(0, 6), NONE);
+        due("turns", x.all(4), 0);
     }
 
     /** "he is SERVED by m": at m is by m, at m and one isn't. */
@@ -586,6 +610,13 @@ public final class EdgeCryTests {
         }
     }
 
+    /** "none (it is not earlier)": earlier by a single minute is. */
+    static void p15_again_worth1() {
+        QueueTurns x = Edges.laid("p0,0,50;p0,0,50;p0,0,50;s1,1;");
+        due("minute", x.again(2, 0), 1);
+        due("WORTH", x.again(2, 1), 1);
+    }
+
     /** "TIME .. else 200": WORTH for one who would never be served. */
     static void p15_again_worthFromNever() {
         QueueTurns x = Edges.laid("p0,0,50;p0,0,50;p0,0,50;s1,1;b2;");
@@ -681,6 +712,15 @@ public final class EdgeCryTests {
         Edges.changesNothing(Edges::busy, "game(0, 1, 3)", x -> x.game(0, 1, 3), BAD);
         Edges.changesNothing(() -> Edges.laid(TWO), "game(0, 1, 1)", x -> x.game(0, 1, 1), NONE);
         Edges.changesNothing(Edges::fresh, "game(0, 1, 0)", x -> x.game(0, 1, 0), 12);
+    }
+
+    /** "a minute of 0 to 11 of his own": 0 is one, and the only one by which PERSON 2 isn't turned to a worse place. */
+    static void p16_game_minute0() {
+        QueueTurns x = Edges.laid("p0,0,90;p0,0,90;p0,0,90;p0,0,90;p0,0,90;s1,9;");
+        due("how many", x.game(0, 2, 0), 12);
+        due("of i", x.game(0, 2, 1), 0);
+        due("of j", x.game(0, 2, 2), 0);
+        due("the other way", x.game(2, 0, 0), 12);
     }
 
     /** "a minute of 0 to 11 of his own": 11 is one, and the only one that they can be heard in. */

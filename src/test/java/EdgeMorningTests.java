@@ -309,6 +309,14 @@ public final class EdgeMorningTests {
         Edges.changesNothing(Edges::busy, "place(1, 1)", x -> x.place(1, 1), 1);
     }
 
+    /** Asked in the middle of a morning, the next morning begins anew: he cries at 4 and comes at 5. */
+    static void p07_place_theNextMorningBeginsAnew() {
+        QueueTurns x = Edges.laid("p5,1,50;p1,0,50;c0,4;s1,9;");
+        due("place(0, 6)", x.place(0, 6), 1);
+        due("turns", x.all(4), 0);
+        due("place(1, 0)", x.place(1, 0), NONE);
+    }
+
     /** "none (he is not in THE ROW)": ahead of the minute he comes in, not in it. */
     static void p07_place_comesInMinuteA() {
         QueueTurns x = Edges.laid("p5,0,50;s1,9;");
@@ -447,6 +455,14 @@ public final class EdgeMorningTests {
         Edges.changesNothing(Edges::busy, "row(-1)", x -> x.row(-1), BAD);
         Edges.changesNothing(Edges::busy, "row(200)", x -> x.row(200), BAD);
         Edges.changesNothing(Edges::busy, "row(1)", x -> x.row(1), 2);
+    }
+
+    /** Asked in the middle of a morning, the next morning begins anew: he cries at 4 and comes at 5. */
+    static void p08_row_theNextMorningBeginsAnew() {
+        QueueTurns x = Edges.laid("p5,1,50;p1,0,50;c0,4;s1,9;");
+        due("row(6)", x.row(6), 2);
+        due("turns", x.all(4), 0);
+        due("row(0)", x.row(0), 0);
     }
 
     /** None and all ten. */

@@ -165,6 +165,15 @@ public final class EdgeOddsTests {
         }
     }
 
+    /** A short row asked for behind a long one. */
+    static void p18_mean_behindALongerRow() {
+        QueueTurns o = new QueueTurns();
+        o.mean(9, 4, 3, 0);
+        due("mean(1, 0, 3, 0)", o.mean(1, 0, 3, 0), 0);
+        o.mean(9, 4, 3, 0);
+        due("mean(1, 0, 3, 1)", o.mean(1, 0, 3, 1), 1);
+    }
+
     /** "nothing changes then" */
     static void p18_mean_changesNothing() {
         Edges.changesNothing(Edges::busy, "mean(0, 0, 5, 0)", o -> o.mean(0, 0, 5, 0), BAD);
@@ -294,6 +303,15 @@ public final class EdgeOddsTests {
         }
     }
 
+    /** A short row asked for behind a long one. */
+    static void p19_by_behindALongerRow() {
+        QueueTurns o = new QueueTurns();
+        o.by(9, 4, 3, 8, 0);
+        due("by(1, 0, 3, 8, 0)", o.by(1, 0, 3, 8, 0), 1);
+        o.by(9, 4, 3, 8, 0);
+        due("by(1, 0, 3, 8, 1)", o.by(1, 0, 3, 8, 1), 1);
+    }
+
     /** "nothing changes then" */
     static void p19_by_changesNothing() {
         Edges.changesNothing(Edges::busy, "by(0, 0, 5, 0, 0)", o -> o.by(0, 0, 5, 0, 0), BAD);
@@ -380,6 +398,14 @@ public final class EdgeOddsTests {
     private static long meanOf(QueueTurns o, int n, int k, int x) {
         long below = o.mean(n, k, x, 1);
         return below > 0 ? o.mean(n, k, x, 0) * (WHOLE / below) : -1;
+    }
+
+    /** A short row asked for behind a long one. */
+    static void p20_best_behindALongerRow() {
+        QueueTurns o = new QueueTurns();
+        o.best(9, 10, 0);
+        due("best(2, 4, 0)", o.best(2, 4, 0), 0);
+        due("best(2, 6, 1)", o.best(2, 6, 1), 1);
     }
 
     /** "nothing changes then" */

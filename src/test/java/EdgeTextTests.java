@@ -694,20 +694,37 @@ public final class EdgeTextTests {
         due("answers alike", Edges.answers(x).equals(Edges.answers(Edges.laid("p0,1,50;p0,0,50;c0,1;"))) ? 1 : 0, 1);
     }
 
+    /** By each of q, s, b and l it would be another morning. */
+    private static final String WITHOUT_ALL = "p0,0,50;p0,0,50;p0,1,50;p0,0,50;c2,1;c2,2;";
+
+    private static void isAsLaidFirst(QueueTurns x) {
+        Edges.layAnew(x, WITHOUT_ALL);
+        due("turns", x.all(4), 2);
+        due("served", x.all(0), 4);
+        due("law", x.count(7), 0);
+        due("when", x.person(3, 4), 6);
+        due("answers alike", Edges.answers(x).equals(Edges.answers(Edges.laid(WITHOUT_ALL))) ? 1 : 0, 1);
+    }
+
     /** Of what was LAID ahead nothing stays: what isn't told is as without. */
     static void p05_lay_anew_leavesNothingOfTheOldOne() {
-        String text = "p0,0,50;p0,0,50;";
-        QueueTurns x = Edges.laid("p1,1,1;p1,1,1;p1,1,1;c2,1;c1,1;q30;s9,9;b0;l3;");
-        Edges.layAnew(x, text);
-        due("answers alike", Edges.answers(x).equals(Edges.answers(Edges.laid(text))) ? 1 : 0, 1);
+        for (String old : new String[] {"q30;", "s9,9;", "b0;", "l3;", "q30;s9,9;b0;l3;"}) {
+            QueueTurns x = Edges.laid("p1,1,1;p1,1,1;p1,1,1;c2,1;c1,2;" + old);
+            isAsLaidFirst(x);
+            // twice, so that whatever the object reads a TEXT into has been used
+            QueueTurns y = Edges.laid("p1,1,1;p1,1,1;p1,1,1;c2,1;c1,2;" + old);
+            y.lay();
+            isAsLaidFirst(y);
+        }
     }
 
     /** FAULT found, mended, LAID: of the ITEMS that were read ahead of a FAULT nothing stays. */
     static void p05_lay_behindAFault_isOfTheNewTextAlone() {
-        QueueTurns x = Edges.written("p1,1,1;c0,1;q30;s9,9;b0;l3;x");
-        due("lay", x.lay(), NO);
-        Edges.layAnew(x, "p0,0,50;p0,0,50;");
-        due("answers alike", Edges.answers(x).equals(Edges.answers(Edges.laid("p0,0,50;p0,0,50;"))) ? 1 : 0, 1);
+        for (String old : new String[] {"q30;", "s9,9;", "b0;", "l3;", "q30;s9,9;b0;l3;"}) {
+            QueueTurns x = Edges.written("p1,1,1;c0,1;c0,2;" + old + "x");
+            due("lay", x.lay(), NO);
+            isAsLaidFirst(x);
+        }
     }
 
     /** "10 at most, 0, 1, ..": numbered as they are told, not as they come. */

@@ -58,7 +58,11 @@ final class Edges {
 
     private static void tellWrong(String how) {
         wrong++;
-        System.out.println(running + ": " + how);
+        StringBuilder plain = new StringBuilder();
+        for (char c : how.toCharArray()) {
+            plain.append(c < 32 || c > 126 ? "<" + (int) c + ">" : String.valueOf(c));
+        }
+        System.out.println(running + ": " + plain);
     }
 
     static void due(String call, long got, long want) {
@@ -156,7 +160,7 @@ final class Edges {
         put(x, "p".repeat(300 - x.count(6)));
         x.tell(1, 4);
         x.keep();
-        for (int m = 5; x.count(1) < 8; m++) {
+        for (int m = 5; m < 10; m++) {
             x.tell(1, m);
         }
         x.keep();
@@ -223,7 +227,7 @@ final class Edges {
     }
 
     private static void tellMorning(QueueTurns x, List<String> all) {
-        for (int i = 0; i < x.count(0); i++) {
+        for (int i = 0; i < Math.min(10, x.count(0)); i++) {
             for (int what = 0; what < 5; what++) {
                 all.add("person " + i + " " + what + " " + x.person(i, what));
             }
@@ -238,7 +242,7 @@ final class Edges {
     }
 
     private static void tellCries(QueueTurns x, List<String> all) {
-        for (int c = 0; c < x.count(1); c++) {
+        for (int c = 0; c < Math.min(8, x.count(1)); c++) {
             for (int what = 0; what < 3; what++) {
                 all.add("cry " + c + " " + what + " " + x.cry(c, what));
             }
