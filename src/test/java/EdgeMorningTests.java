@@ -382,6 +382,12 @@ public final class EdgeMorningTests {
         places("p1,0,50;p1,0,50;p1,0,50;p1,0,50;s1,9;l1;", 1, 3, 0, 2, 1);
     }
 
+    /** "1 who has waited .. goes away" comes ahead of "3 Who comes": half of three, not of four. */
+    static void p07_place_MIDDLE_joinsBehindHalfOfThoseStillThere() {
+        places("p1,0,3;p1,0,50;p1,0,50;p1,0,50;p4,0,50;s1,9;l1;", 3, 3, 0, 2, 1, NONE);
+        places("p1,0,3;p1,0,50;p1,0,50;p1,0,50;p4,0,50;s1,9;l1;", 4, NONE, 0, 3, 2, 1);
+    }
+
     /** "by MIDDLE": only there; by the others who comes is the last. */
     static void p07_place_theOtherLaws_joinBehindTheLast() {
         for (String law : new String[] {"l0;", "l2;", "l3;"}) {
@@ -430,7 +436,8 @@ public final class EdgeMorningTests {
     /** "1 who has waited .. goes away" comes ahead of the turn: the others alone turn. */
     static void p07_place_goesAwayInTheMinuteOfATurn() {
         places("p1,1,50;p1,0,50;p1,0,3;c0,4;s1,9;", 4, 1, 0, NONE);
-        places("p1,1,50;p1,0,50;p1,0,50;p1,0,50;p1,0,3;p1,0,50;c0,4;s1,9;l2;", 4, 0, 1, 2, 4, NONE, 3);
+        // by BEHIND he is none of the first three any more, so there is but one behind them
+        places("p1,0,3;p1,1,50;p1,0,50;p1,0,50;p1,0,50;c1,4;s1,9;l2;", 4, NONE, 0, 1, 2, 3);
     }
 
     // ---- 8 row
