@@ -28,6 +28,19 @@ public final class FaceTests {
         return m.getReturnType().getName() + " " + m.getName() + "(" + types.substring(1, types.length() - 1) + ")";
     }
 
+    /** No method that isn't of the face bears the name of one that is. */
+    private static void dueWithinAreNoneOf(Class<?> within, TreeSet<String> open) {
+        TreeSet<String> names = new TreeSet<>();
+        for (String method : open) {
+            names.add(method.replaceAll("^\\w+ |\\(.*", ""));
+        }
+        for (Method m : within.getDeclaredMethods()) {
+            if (!open.contains(told(m)) || Modifier.isPrivate(m.getModifiers())) {
+                due(within.getName() + "." + m.getName() + " bears a name of the face", names.contains(m.getName()), false);
+            }
+        }
+    }
+
     public static void main(String[] args) {
         Class<?> face = QueueTurns.class;
         due("class", Modifier.toString(face.getModifiers()), "public final");
@@ -50,8 +63,14 @@ public final class FaceTests {
         Constructor<?>[] constructors = face.getDeclaredConstructors();
         due("constructors", constructors.length, 1);
         due("constructor", constructors[0].toString(), "public QueueTurns()");
+        due("class above", face.getSuperclass(), Object.class);
+        due("interfaces", face.getInterfaces().length, 0);
+        dueWithinAreNoneOf(face, open);
         for (Class<?> inside : face.getDeclaredClasses()) {
-            due(inside.getName(), Modifier.isStatic(inside.getModifiers()), true);
+            int how = inside.getModifiers();
+            due(inside.getName(), Modifier.isStatic(how), true);
+            due(inside.getName() + " is open", Modifier.isPublic(how) || Modifier.isProtected(how), false);
+            dueWithinAreNoneOf(inside, open);
         }
         due("BAD", QueueTurns.BAD, -1);
         due("NO", QueueTurns.NO, -2);
